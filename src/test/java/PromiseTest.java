@@ -259,6 +259,10 @@ public final class PromiseTest {
         fine("abcde~ab;abcd~abc;", 0);
         fault("a1~*;", 1, 1);
         fine("memory8;a~#1;", 3);
+        fine("\n  memory 8 ; a ~ #1 ;", 3);
+        fault(" memora 8;", 1, 1);
+        fault("a ~ %;", 4, 1);
+        fault("{;", 0, 1);
     }
 
     private static void faultsOfNumbersAndDepth() {
@@ -278,6 +282,8 @@ public final class PromiseTest {
         fault("a ~ " + times(10, "[(* ") + "[* *]" + times(10, ") *]") + ";", 44, 4);
         fault("a ~ " + times(18, "(* ") + "((* *) ((* *) *))" + times(18, ")") + ";", 66, 4);
         fine("a ~ " + times(20, "[* ") + "#1" + times(20, "]") + ";", 43);
+        fine(times(20, "(* ") + "<1>" + times(20, ")") + " ~ a;", 45);
+        fault(times(21, "[") + "a", 20, 4);
     }
 
     private static void faultsOfMemory() {
@@ -800,6 +806,7 @@ public final class PromiseTest {
         due("24: beyond 16 in all", x.split(1), NONE);
         due("24: 15 roots", of("a~b;c~d;e~f;g~h;i~j;k~l;m~n;o~*;").split(0), NONE);
         due("24: no room", of("memory 8; a ~ #3; b ~ *;").split(0), NONE);
+        due("24: room for one", of("memory 8; a ~ #3;").split(0), 1);
         for (int root : new int[] {-1, 1, 16, LEAST, GREATEST}) {
             CombinatorRing y = of("a ~ *;");
             due("24: split(" + root + ")", y.split(root), NONE);
@@ -818,6 +825,7 @@ public final class PromiseTest {
         due("25: 15 roots", of("a~b;c~d;e~f;g~h;i~j;k~l;m~n;o~*;").twice(0), NONE);
         due("25: 14 roots", of("a~b;c~d;e~f;g~h;i~j;k~l;m~n;").twice(0), 14);
         due("25: no room", of("memory 8; a ~ #3; b ~ *;").twice(0), NONE);
+        due("25: room for one", of("memory 8; a ~ #3;").twice(0), 1);
         for (int root : new int[] {-1, 1, 16, LEAST, GREATEST}) {
             due("25: twice(" + root + ")", of("a ~ *;").twice(root), NONE);
         }

@@ -1,4 +1,5 @@
 import java.util.ArrayList;
+import java.util.Collections;
 import java.util.List;
 import java.util.NoSuchElementException;
 import java.util.Random;
@@ -100,6 +101,7 @@ public final class RandomCallsTest {
     private String drawText() {
         open.clear();
         names = 0;
+        if (random.nextInt(6) == 0) return drawRing();
         StringBuilder s = new StringBuilder();
         if (random.nextInt(2) == 0) {
             int m = random.nextInt(3) == 0 ? 8 + random.nextInt(293) : 8 + random.nextInt(40);
@@ -118,6 +120,26 @@ public final class RandomCallsTest {
         }
         if (random.nextInt(40) == 0) {
             for (int i = 0; i < 9; i++) s.append("y").append((char) ('a' + i)).append("~z").append((char) ('a' + i)).append(";");
+        }
+        return s.toString();
+    }
+
+    /** A few nodes, all ports linked among themselves but for one or none: such nets often grow till memory is full. */
+    private String drawRing() {
+        int[] kinds = new int[3 + random.nextInt(4)];
+        int ports = 0;
+        for (int i = 0; i < kinds.length; i++) {
+            kinds[i] = random.nextInt(7) == 0 ? 0 : 1 + random.nextInt(2);
+            ports += kinds[i] == 0 ? 1 : 3;
+        }
+        List<String> ends = new ArrayList<>();
+        for (int i = 0; i < ports; i++) ends.add(String.valueOf((char) ('a' + i / 2)));
+        Collections.shuffle(ends, random);
+        StringBuilder s = new StringBuilder("memory ").append(200 + random.nextInt(101)).append(";");
+        for (int kind : kinds) {
+            s.append(ends.remove(0)).append("~");
+            if (kind == 0) s.append("*;");
+            else s.append(kind == 1 ? "(" : "[").append(ends.remove(0)).append(" ").append(ends.remove(0)).append(kind == 1 ? ");" : "];");
         }
         return s.toString();
     }
