@@ -172,6 +172,21 @@ public final class PromiseBoundaryTest {
             }
         }
 
+        static void p03_namesOfAnEarlierTextAreGone() {
+            at(3, "The first n bytes of THE TAPE (it is empty then) are the NET from now on:");
+            String sixteen = ROOTS_14 + "o~p;";
+            CombinatorRing x = new CombinatorRing();
+            due("17 roots", Boundary.read(x, sixteen + "q~*;"), -2 - (8 * 36 + 6));
+            due("16 roots behind them", Boundary.read(x, sixteen), 0);
+            due("they are 16", x.count(7), 16);
+            due("one root behind them", Boundary.read(x, "q~*;"), 1);
+            due("it is one", x.count(7), 1);
+            due("its number", x.root(0), 0);
+            due("a name that stood twice", Boundary.read(x, "a~a;q~*;"), 1);
+            due("stands once now", Boundary.read(x, "a~*;"), 1);
+            due("a root", x.count(6), 1);
+        }
+
         static void p03_namesOverAllTheTape() {
             at(3, "The first n bytes of THE TAPE (it is empty then) are the NET from now on:");
             StringBuilder text = new StringBuilder();
@@ -436,6 +451,18 @@ public final class PromiseBoundaryTest {
             for (int root : new int[] {-1, 6, 15, 16, 17, -1000, 1000, LEAST, GREATEST}) {
                 due("root(" + root + ")", x.root(root), NONE);
             }
+        }
+
+        static void p08_noRoot16EitherBehindSteps() {
+            at(8, "Likewise of a ROOT.");
+            CombinatorRing x = Boundary.of("(a b)~[c d];" + "*~(* *);".repeat(3));
+            x.run(0, 99, 0);
+            for (int root = 4; root <= 21; root++) {
+                due("root(" + root + ")", x.root(root), NONE);
+                due("drop(" + root + ")", x.drop(root), NONE);
+                due("number(" + root + ")", Boundary.numberThrows(x, root), true);
+            }
+            due("roots", x.count(6), 4);
         }
 
         // ---- 9: rootAt

@@ -461,6 +461,29 @@ public final class StepBoundaryTest {
             due("all else is alike", x.likeImage(0), 0);
         }
 
+        static void portAndKindAreBothOfMatter() {
+            at("a NODE that wasn't met yet: MET, by which PORT, its KIND;");
+            // r at a doubler's head, then at a pairer's port 1; two erasers at the other ports; nothing else is come to.
+            CombinatorRing x = Boundary.of("r~s;a~[b c];d~(e f);g~*;h~*;i~*;");
+            int[][] ways = {{1, 2, 3, 8, 4, 9, 5, 6, 7, 10}, {1, 6, 5, 8, 7, 9, 2, 3, 4, 10}};
+            for (int[] way : ways) {
+                for (int i = 0; i < way.length; i += 2) {
+                    x.join(way[i], way[i + 1]);
+                }
+                due("one root", x.count(6), 1);
+                due("three nodes", x.seen(), 3);
+                if (way == ways[0]) {
+                    x.image(0, false);
+                    due("by the head", x.met(0, 1), 0);
+                    for (int i = 0; i < way.length; i += 2) {
+                        x.undo();
+                    }
+                }
+            }
+            due("by port 1", x.met(0, 1), 1);
+            due("unlike", x.likeImage(0), 0);
+        }
+
         static void ofWhichKindItIsIsOfMatter() {
             at("a NODE that wasn't met yet: MET, by which PORT, its KIND;");
             CombinatorRing x = Boundary.of("a~b;");
@@ -543,6 +566,16 @@ public final class StepBoundaryTest {
             x.join(1, 4);
             x.join(2, 3);
             due("unlike at the end", x.likeImage(0), 0);
+        }
+
+        static void whatWasSeenEarlierIsOfNoMatter() {
+            at("Two NETS are ALIKE if all that is SEEN FROM ROOTS is alike");
+            CombinatorRing x = Boundary.of("a~#20;b~<1 2 3>;");
+            due("much is seen", x.seen(), 41 + 19);
+            Boundary.read(x, "a~*;");
+            x.image(0, false);
+            due("little now", x.likeImage(0), 1);
+            due("by orders", x.alike(0, 1, 9, 0), 1);
         }
 
         static void numbersOfNodesAreOfNoMatter() {
