@@ -3,6 +3,8 @@ import java.lang.reflect.Field;
 import java.lang.reflect.Member;
 import java.lang.reflect.Method;
 import java.lang.reflect.Modifier;
+import java.nio.file.Files;
+import java.nio.file.Path;
 import java.util.ArrayList;
 import java.util.Arrays;
 import java.util.HashSet;
@@ -28,6 +30,7 @@ public final class FaceTest {
 
     public static void main(String[] args) throws Exception {
         faceIsTheDocuments();
+        faceIsToldAsInTheDocument(Path.of(args.length > 0 ? args[0] : "."));
         noPrivateNamesake();
         for (int seed = 0; seed < 60; seed++) {
             wildCalls(new Random(seed));
@@ -78,6 +81,36 @@ public final class FaceTest {
         due("constructors", all.length, 1);
         due("a public constructor", all[0].getModifiers(), Modifier.PUBLIC);
         due("without parameters", all[0].getParameterCount(), 0);
+    }
+
+    /** Each line of the document's face stands in the source, with its parameters' names and its exceptions. */
+    private static void faceIsToldAsInTheDocument(Path here) throws Exception {
+        Path doc = here.resolve("..").resolve("shared").resolve("DOC.md");
+        if (!Files.exists(doc)) {
+            return;
+        }
+        Path file = here.resolve("src").resolve("main").resolve("java").resolve("CombinatorRing.java");
+        List<String> source = new ArrayList<>();
+        for (String line : Files.readAllLines(file)) {
+            source.add(line.trim());
+        }
+        String text = Files.readString(doc);
+        String face = text.substring(text.indexOf("```java"), text.indexOf("## Terms"));
+        int told = 0;
+        for (String line : face.split("\n")) {
+            String wanted = line.trim();
+            if (wanted.startsWith("public ")) {
+                told++;
+                boolean isMethod = wanted.endsWith(");") || wanted.contains(" throws ");
+                due("in the source: " + wanted,
+                    source.contains(isMethod ? wanted.replace(";", " {") : wanted), true);
+            }
+        }
+        due("lines of the face: the class, the constant, the constructor, methods", told, FACE.length + 3);
+        Path home = here.resolve("src").resolve("main").resolve("java");
+        try (java.util.stream.Stream<Path> files = Files.list(home)) {
+            due("files of the program", files.count(), 1L);
+        }
     }
 
     private static boolean isOpen(Member m) {
