@@ -110,13 +110,13 @@ public final class RoomTest {
         if (!(ManagementFactory.getThreadMXBean() instanceof com.sun.management.ThreadMXBean threads)) {
             return 0;
         }
-        long thread = Thread.currentThread().getId();
-        threads.getThreadAllocatedBytes(thread);
-        long before = threads.getThreadAllocatedBytes(thread);
+        // Asked once ahead, as the first asking may make something of its own.
+        threads.getCurrentThreadAllocatedBytes();
+        long before = threads.getCurrentThreadAllocatedBytes();
         for (int i = 0; i < REPEATED; i++) {
             row(x, i);
         }
-        return threads.getThreadAllocatedBytes(thread) - before;
+        return threads.getCurrentThreadAllocatedBytes() - before;
     }
 
     private static void row(CombinatorRing x, int i) {
